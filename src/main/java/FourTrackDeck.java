@@ -287,7 +287,7 @@ public final class FourTrackDeck {
             case 5:
                 return sheetWidth;
             default:
-                return tracksThere(what);
+                return tracksThere(what - FIRST_REEL_COUNTED);
         }
     }
 
@@ -374,11 +374,8 @@ public final class FourTrackDeck {
         return row * SHEET_SIDE + cell;
     }
 
-    private int tracksThere(int what) {
-        if (!isWithin(what, FIRST_REEL_COUNTED, FIRST_REEL_COUNTED + MOST_REELS - 1)) {
-            return NONE;
-        }
-        Reel counted = reelOf(what - FIRST_REEL_COUNTED);
+    private int tracksThere(int reel) {
+        Reel counted = reelOf(reel);
         return counted == null ? NONE : counted.bitsOfTracks();
     }
 

@@ -72,8 +72,11 @@ public final class FourTrackDeckPromises {
             due(x, "arm", x.arm(track, 1), 0, 0);
         }
         due(x, "source", x.source(1, 1), 0, 0);
-        FourTrackDeck other = new FourTrackDeck();
+        FourTrackDeck other = deckWith(1);
         due("another object's s", other.count(3), 0);
+        other.arm(0, 2);
+        due(other, "run(1)", other.run(1), 1, 0);
+        due("the step is 0 at first", other.count(3), 0);
     }
 
     private static void reel() {
@@ -568,6 +571,8 @@ public final class FourTrackDeckPromises {
         x.head(0, 4);
         due(x, "scan behind the last", x.scan(0, 0), NONE, 3);
         due("p stays", x.count(2), 0);
+        fill(x, 1, 1, 2, 3, 4);
+        due(x, "no 0 stands outside", x.scan(1, 0), NONE, 3);
         x.write(2, 40000);
         due(x, "the greatest level", x.scan(2, 32768), 0, 0);
         due(x, "beyond the greatest level", x.scan(2, 40000), NONE, 3);
