@@ -365,6 +365,22 @@ public final class FourTrackDeckBoundaries {
         has(3, MIN + 1, 1);
     }
 
+    private static void allIsZeroAtFirst() {
+        says("Terms", "THE DECK has a REEL on it or none (at first)");
+        answers("", "count(1) = NONE", "reel(1, 15) = 0", "count(1) = NONE", "read(0) = 0 : 5", "thread(0) = NONE");
+        says("Terms", "THE TAPE stands at p (0 at first)");
+        answers("", "count(2) = 0", "wind(1) = 1");
+        says("Terms", "each TRACK has a HEAD with an OFFSET and a MODE (0 both at first)");
+        answers("", "head(0, 1) = 0", "head(1, 1) = 0", "head(2, 1) = 0", "head(3, 1) = 0",
+            "arm(0, 1) = 0", "arm(1, 1) = 0", "arm(2, 1) = 0", "arm(3, 1) = 0");
+        says("Terms", "SOURCE is a number s with a STEP (0 both at first)");
+        answers("reel(1, 15) thread(0) arm(2, 2) ", "count(3) = 0", "run(1) = 1", "count(3) = 0", "source(1, 1) = 0");
+        says("Terms", "METER (0 at first)");
+        answers("", "meter(0) = 0", "meter(1) = 0", "meter(2) = 0", "meter(3) = 0");
+        says("Terms", "THE SHEET: none at first");
+        answers("", "count(4) = NONE", "count(5) = NONE", "cue(0, 0, 1) = 0 : 2", "seek(0, 0) = 0 : 2");
+    }
+
     private static void reelsFromZeroOn() {
         says("Terms", "REELS are numbered from 0 on");
         answers("", "reel(1, 1) = 0", "reel(0, 1) = NONE : 1", "reel(2, 1) = 1", "reel(3, 1) = 2");
@@ -1267,6 +1283,22 @@ public final class FourTrackDeckBoundaries {
         answers(PLAYED, "thread(NONE) = 0", "strip(0, 1) = 1", "meter(1) = -3", "meter(3) = 1");
     }
 
+    private static void meterAsFarAsItGoes() {
+        // 512 calls can't take a METER to where 32 bits wrap: half of that is the most.
+        says("Promise 20", "The METER of a TRACK: as far as the calls of an object take it");
+        Used used = new Used("reel(64, 15) thread(0) source(-1, 0) arm(0, 2) arm(1, 2) arm(2, 2) arm(3, 2) run(64)"
+            + " arm(0, 1) arm(1, 1) arm(2, 1) arm(3, 1) ");
+        for (int n = 0; n < 245; n++) {
+            due("wind(-64)", used.tell("wind(-64)"), 0);
+            due("run(64)", used.tell("run(64)"), 64);
+        }
+        int played = 245 * 64;
+        int[] sums = {65535 * played, -played, -played, played};
+        for (int track = 0; track < 4; track++) {
+            due("meter(" + track + ")", used.tell("meter(" + track + ")"), sums[track]);
+        }
+    }
+
     private static void meterOfNone() {
         says("Promise 20", "0 for none such");
         answers(PLAYED + "run(1) ", "meter(-1) = 0 : 0", "meter(4) = 0 : 0", "meter(MAX) = 0", "meter(MIN) = 0");
@@ -1362,6 +1394,7 @@ public final class FourTrackDeckBoundaries {
         shorts();
         levels();
         truths();
+        allIsZeroAtFirst();
         reelsFromZeroOn();
         placesAreZeroAtFirst();
         placesOutside();
@@ -1445,6 +1478,7 @@ public final class FourTrackDeckBoundaries {
         tripWithoutOne();
         tripOfAnotherWhat();
         meterOfATrack();
+        meterAsFarAsItGoes();
         meterOfNone();
         countOfAll();
         countOfTracks();
