@@ -2,6 +2,8 @@ import java.lang.reflect.Constructor;
 import java.lang.reflect.Field;
 import java.lang.reflect.Method;
 import java.lang.reflect.Modifier;
+import java.util.ArrayList;
+import java.util.List;
 import java.util.Set;
 import java.util.TreeSet;
 
@@ -70,16 +72,34 @@ public final class FourTrackDeckFace {
         for (Method m : FourTrackDeck.class.getMethods()) {
             seen.add(m.getName());
         }
-        for (Method m : FourTrackDeck.class.getDeclaredMethods()) {
-            due(isSeen(m.getModifiers()) || !seen.contains(m.getName()), "a private method is named " + m.getName());
+        for (Class<?> c : classes()) {
+            for (Method m : c.getDeclaredMethods()) {
+                due(isSeen(m.getModifiers()) || !seen.contains(m.getName()), "a private method is named " + m.getName());
+            }
         }
     }
 
     private static void noStaticState() {
-        for (Field f : FourTrackDeck.class.getDeclaredFields()) {
-            int modifiers = f.getModifiers();
-            due(!Modifier.isStatic(modifiers) || Modifier.isFinal(modifiers), "static state in " + f.getName());
+        for (Class<?> c : classes()) {
+            for (Field f : c.getDeclaredFields()) {
+                int modifiers = f.getModifiers();
+                due(!Modifier.isStatic(modifiers) || Modifier.isFinal(modifiers), "static state in " + f.getName());
+            }
         }
+    }
+
+    private static void classesInsideAreHidden() {
+        for (Class<?> c : FourTrackDeck.class.getDeclaredClasses()) {
+            int modifiers = c.getModifiers();
+            due(!Modifier.isPublic(modifiers) && !Modifier.isProtected(modifiers), c.getName() + " is hidden");
+            due(Modifier.isStatic(modifiers), c.getName() + " is static");
+        }
+    }
+
+    private static List<Class<?>> classes() {
+        List<Class<?>> all = new ArrayList<>(List.of(FourTrackDeck.class.getDeclaredClasses()));
+        all.add(FourTrackDeck.class);
+        return all;
     }
 
     public static void main(String[] args) {
@@ -92,6 +112,7 @@ public final class FourTrackDeckFace {
         due(seen.isEmpty(), "the face has more: " + seen);
         privateNamesAreTheirOwn();
         noStaticState();
+        classesInsideAreHidden();
         System.out.println(wrong == 0 ? "the face is as due" : wrong + " things are not as due");
         if (wrong != 0) {
             System.exit(1);
